@@ -419,11 +419,12 @@ public final class EvenScatter {
         if (w < 0 || i < 0) {
             return refuseLong(BELOW);
         }
-        if (scatter.power * scatter.directions > MOST_WAVE_BITS) {
+        int bits = scatter.power * scatter.directions;
+        if (bits > MOST_WAVE_BITS) {
             return refuseLong(ROOM);
         }
-        int rows = 1 << (scatter.power * scatter.directions);
-        fillWaves(scatter, rows);
+        fillWaves(scatter, bits);
+        int rows = 1 << bits;
         int left = i;
         for (int v = 1; v < rows; v++) {
             if (cells[v] != 0 && Integer.bitCount(v) <= w) {
@@ -580,7 +581,8 @@ public final class EvenScatter {
     }
 
     /** The WAVE of each row of marks v in cells[v], by the fast Walsh transform. */
-    private void fillWaves(Scatter scatter, int rows) {
+    private void fillWaves(Scatter scatter, int bits) {
+        int rows = 1 << bits;
         Arrays.fill(cells, 0, rows, 0);
         for (int n = 0; n < scatter.count; n++) {
             int place = 0;
@@ -589,7 +591,8 @@ public final class EvenScatter {
             }
             cells[place]++;
         }
-        for (int bit = 1; bit < rows; bit *= 2) {
+        for (int k = 0; k < bits; k++) {
+            int bit = 1 << k;
             for (int v = 0; v < rows; v++) {
                 if ((v & bit) == 0) {
                     int without = cells[v];
