@@ -793,6 +793,8 @@ public final class BoundaryTest {
         after.ladder(3);
         after.direction(1, 3, 1L);
         due("1, of all at 0", after.worst(0, 1), 1);
+        due("WAVES before", after.waves(1, 2, 0), 9);
+        due("a SHAPE before", after.even(1), 1);
         // Points (0,0) (4,4) (2,6) (6,2) (1,5) (5,1) (3,3) (7,7): closed (6,6) is 7 / 8 less 36 / 64.
         due("what a greater one was before is forgotten", after.worst(1, 0), 5);
         due("denominator", after.worst(1, 1), 16);
@@ -979,6 +981,9 @@ public final class BoundaryTest {
         x.mark(0, 0);
         due("sum, 1 less 1", x.sum(0, 1), 0);
         due("is 0 / 1", x.sum(0, 2), 1);
+        x.side(0, 0, 254);
+        due("gap 2 / 256", x.gap(0, false, 0), 1);
+        due("is 1 / 128", x.gap(0, false, 1), 128);
         x.grid(6, 1);
         x.step(1, 0, 3);
         // PARTS 0 3 0 3 0 3: closed at 0 is 3 / 6.
