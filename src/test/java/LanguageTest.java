@@ -1,4 +1,5 @@
 import java.io.IOException;
+import java.lang.reflect.Array;
 import java.lang.reflect.Constructor;
 import java.lang.reflect.Field;
 import java.lang.reflect.Method;
@@ -26,11 +27,16 @@ public final class LanguageTest {
         "throw", "throws", "try", "catch", "synchronized", "assert", "native", "volatile",
         "transient", "Object", "Random", "Thread", "Exact", "hashCode", "toString", "double", "float"};
 
+    private static final long CALLS = 512;
+    private static final long MOST_OBJECTS = 600_000;
+    private static final long MOST_ELEMENTS = 7_300_000;
+
     private static int wrong = 0;
 
-    public static void main(String[] args) throws IOException {
+    public static void main(String[] args) throws IOException, IllegalAccessException {
         face();
         nested();
+        room();
         text(Files.readString(Path.of("src/main/java/EvenScatter.java")));
         System.out.println(wrong == 0 ? "face and language are kept" : wrong + " rules are broken");
         if (wrong != 0) {
@@ -89,7 +95,68 @@ public final class LanguageTest {
             fields(c);
             for (Method m : c.getDeclaredMethods()) {
                 need(m.getParameterCount() <= 7, m + " takes more than seven");
+                need(!isPublicName(m.getName()), m + " has a public name");
             }
+        }
+    }
+
+    private static boolean isPublicName(String name) {
+        for (String method : FACE) {
+            if (method.contains(" " + name + "(")) {
+                return true;
+            }
+        }
+        return false;
+    }
+
+    /**
+     * All that a run makes must fit in one room. Calls that measure make nothing, so the dearest
+     * runs make new objects only, or fill each one with its 12 greatest SCATTERS.
+     */
+    private static void room() throws IllegalAccessException {
+        long[] fresh = sizeOf(new EvenScatter());
+        EvenScatter x = new EvenScatter();
+        for (int s = 0; s < 12; s++) {
+            x.table(6, 8);
+        }
+        long[] full = sizeOf(x);
+        for (int kind = 0; kind < 2; kind++) {
+            long most = kind == 0 ? MOST_OBJECTS : MOST_ELEMENTS;
+            String what = kind == 0 ? " objects" : " fields and elements";
+            need(CALLS * fresh[kind] <= most, "new objects alone make " + CALLS * fresh[kind] + what);
+            long filled = (CALLS / 13 + 1) * full[kind];
+            need(filled <= most, "filled objects make " + filled + what);
+        }
+    }
+
+    /** How many objects and arrays there are from this one on, and their fields and elements. */
+    private static long[] sizeOf(Object object) throws IllegalAccessException {
+        long[] size = {1, 0};
+        if (object.getClass().isArray()) {
+            int length = Array.getLength(object);
+            size[1] = length;
+            for (int i = 0; i < length && !object.getClass().getComponentType().isPrimitive(); i++) {
+                add(size, Array.get(object, i));
+            }
+            return size;
+        }
+        for (Field f : object.getClass().getDeclaredFields()) {
+            if (!Modifier.isStatic(f.getModifiers())) {
+                size[1]++;
+                f.setAccessible(true);
+                if (!f.getType().isPrimitive()) {
+                    add(size, f.get(object));
+                }
+            }
+        }
+        return size;
+    }
+
+    private static void add(long[] size, Object part) throws IllegalAccessException {
+        if (part != null) {
+            long[] more = sizeOf(part);
+            size[0] += more[0];
+            size[1] += more[1];
         }
     }
 
@@ -103,6 +170,8 @@ public final class LanguageTest {
         }
         need(!code.contains("->") && !code.contains("::"), "a lambda or a method reference");
         need(!code.contains("static {"), "a static initialiser");
+        need(!Pattern.compile("while\\s*\\(\\s*true|for\\s*\\([^;)]*;\\s*;").matcher(code).find(),
+            "a loop whose end can't be seen");
         need(source.chars().allMatch(c -> c < 128), "a sign above 127");
         Matcher m = Pattern.compile("import ([\\w.]+);").matcher(code);
         while (m.find()) {
